@@ -1,0 +1,64 @@
+import java.lang.reflect.Constructor;
+import java.lang.reflect.Field;
+import java.lang.reflect.Method;
+import java.lang.reflect.Modifier;
+import java.util.Arrays;
+import java.util.TreeSet;
+
+/** The public face is the document's and nothing more; no private method bears the name of a public one. */
+final class FaceTest {
+    private static final String[] FACE = {
+        "boolean alike(int,int)", "boolean unit(int)", "boolean units(int)", "int arc(int,int,int)", "int best(int,int)",
+        "int cell(int,int)", "int count(int)", "int delay(int,int,int,int,boolean)", "int family(int,int)",
+        "int letter(int,int,int)", "int order(int,int,int)", "int power(int,int)", "int read()",
+        "int sense(int,int,int)", "long truth(int,int)",
+    };
+
+    public static void main(String[] args) {
+        Checks checks = new Checks();
+        Class<CellLibrary> face = CellLibrary.class;
+        checks.due("public final", face.getModifiers(), Modifier.PUBLIC | Modifier.FINAL);
+        TreeSet<String> found = new TreeSet<>();
+        TreeSet<String> publicNames = new TreeSet<>();
+        for (Method method : face.getDeclaredMethods()) {
+            if (!Modifier.isPrivate(method.getModifiers())) {
+                found.add(described(method));
+                publicNames.add(method.getName());
+                checks.due(method + " is public alone", method.getModifiers(), Modifier.PUBLIC);
+            }
+        }
+        System.out.print(found.equals(new TreeSet<>(Arrays.asList(FACE))) ? "" : "the face is " + found + "\n");
+        checks.due("the face", found.equals(new TreeSet<>(Arrays.asList(FACE))), true);
+        for (Constructor<?> constructor : face.getDeclaredConstructors()) {
+            checks.due(constructor.toString(), constructor.getModifiers() == Modifier.PUBLIC
+                && constructor.getParameterCount() == 0, true);
+        }
+        for (Field field : face.getDeclaredFields()) {
+            checks.due(field.toString(), Modifier.isPrivate(field.getModifiers()) || field.getName().equals("NONE"), true);
+        }
+        TreeSet<String> otherNames = new TreeSet<>();
+        for (Method method : face.getDeclaredMethods()) {
+            if (Modifier.isPrivate(method.getModifiers())) {
+                otherNames.add(method.getName());
+            }
+        }
+        for (Class<?> inside : face.getDeclaredClasses()) {
+            checks.due(inside + " is static", Modifier.isStatic(inside.getModifiers()), true);
+            for (Method method : inside.getDeclaredMethods()) {
+                otherNames.add(method.getName());
+            }
+        }
+        otherNames.retainAll(publicNames);
+        checks.due("names used twice " + otherNames, otherNames.isEmpty(), true);
+        checks.finish();
+    }
+
+    private static String described(Method method) {
+        StringBuilder text = new StringBuilder();
+        text.append(method.getReturnType()).append(' ').append(method.getName()).append('(');
+        for (Class<?> type : method.getParameterTypes()) {
+            text.append(text.charAt(text.length() - 1) == '(' ? "" : ",").append(type);
+        }
+        return text.append(')').toString();
+    }
+}
