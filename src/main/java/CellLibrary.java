@@ -39,7 +39,7 @@ public final class CellLibrary {
         // What lies behind tapeLength is never read, so a refusal half way needs no undoing.
         int end = tapeLength;
         for (int shift = 24; shift >= 0; shift -= 8) {
-            int u = four >>> shift & 255;
+            int u = (four >>> shift) & 255;
             if (u != 0) {
                 if (!mayStandOnTape(u) || end >= TAPE_ROOM) {
                     return false;
@@ -246,7 +246,7 @@ public final class CellLibrary {
         }
 
         static int characterOf(long name, int i) {
-            int character = i < ROOM ? (int) (name >>> 8 * (ROOM - 1 - i)) & 255 : 0;
+            int character = i < ROOM ? (int) (name >>> (8 * (ROOM - 1 - i))) & 255 : 0;
             return character == 0 ? NONE : character;
         }
 
@@ -274,7 +274,7 @@ public final class CellLibrary {
         }
 
         static long within(long truth, int states) {
-            return truth & -1L >>> STATE_ROOM - states;
+            return truth & (-1L >>> (STATE_ROOM - states));
         }
 
         static int senseOf(long truth, int input) {
@@ -415,7 +415,7 @@ public final class CellLibrary {
         }
 
         long total() {
-            return ors[open] | xors[open] ^ ands[open];
+            return ors[open] | (xors[open] ^ ands[open]);
         }
 
         private void clearLevel() {
