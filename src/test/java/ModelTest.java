@@ -18,7 +18,7 @@ final class ModelTest {
 
     public static void main(String[] args) {
         for (int n = 0; n < 2500; n++) {
-            CellLibrary x = new CellLibrary();
+            CountedLibrary x = new CountedLibrary();
             PlainModel model = new PlainModel();
             int texts = 1 + below(2);
             for (int i = 0; i < texts; i++) {
@@ -37,7 +37,7 @@ final class ModelTest {
         return (int) ((seed >>> 33) % limit);
     }
 
-    private static void readBoth(CellLibrary x, PlainModel model, boolean spoil, int room) {
+    private static void readBoth(CountedLibrary x, PlainModel model, boolean spoil, int room) {
         String text = text(room - 400);
         for (int times = spoil ? 1 + below(2) : 0; times > 0; times--) {
             text = spoiled(text);
@@ -182,7 +182,7 @@ final class ModelTest {
         }
     }
 
-    private static void askBoth(CellLibrary x, PlainModel model) {
+    private static void askBoth(CountedLibrary x, PlainModel model) {
         CHECKS.due("cells", x.count(0), model.cells());
         CHECKS.due("tables", x.count(1), model.tables());
         CHECKS.due("tape", x.count(2), 0);
@@ -194,7 +194,7 @@ final class ModelTest {
         }
     }
 
-    private static void askCell(CellLibrary x, PlainModel model, int c) {
+    private static void askCell(CountedLibrary x, PlainModel model, int c) {
         PlainModel.Cell cell = model.cell(c);
         int[] due = {cell.inputs.size(), cell.outputs.size(), cell.arcs.size(), cell.amount(cell.drive), cell.amount(cell.load),
             cell.amount(cell.area), model.disagreeing(c), cell.place};
@@ -219,7 +219,7 @@ final class ModelTest {
         CHECKS.answers("letter", letter, () -> x.letter(c, pin, at));
     }
 
-    private static void askArc(CellLibrary x, PlainModel model, int c) {
+    private static void askArc(CountedLibrary x, PlainModel model, int c) {
         PlainModel.Cell cell = model.cell(c);
         int k = below(cell.arcs.size() + 2) - 1;
         int what = below(8) - 1;
@@ -243,7 +243,7 @@ final class ModelTest {
         return below(20) == 0 ? -1 - below(5) : below(20) == 0 ? 999990 + below(20) : below(4) == 0 ? below(400000) : below(80);
     }
 
-    private static void askFamily(CellLibrary x, PlainModel model, int a, int b) {
+    private static void askFamily(CountedLibrary x, PlainModel model, int a, int b) {
         List<Integer> order = model.order(a, b);
         alikePairs += order != null && a != b ? 1 : 0;
         CHECKS.due("alike", x.alike(a, b), order != null);

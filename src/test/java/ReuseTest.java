@@ -1,4 +1,6 @@
-/** Promise 4 again: texts that take the place of others, full rows, and nothing left of what was there. */
+import java.util.List;
+
+/** Promise 4 again: texts that take the place of others, and nothing left of what was there. */
 final class ReuseTest {
     private static final Checks CHECKS = new Checks();
     private static final int NONE = CellLibrary.NONE;
@@ -6,14 +8,16 @@ final class ReuseTest {
     public static void main(String[] args) {
         sameTextAgain();
         shorterRows();
-        fullRows();
-        endOfTheTape();
-        throwsChangeNothing();
+        smallerFamily();
+        faultsBetween();
+        refusalsInARow();
+        askingChangesNothing();
         CHECKS.finish();
     }
 
     private static void sameTextAgain() {
-        CellLibrary x = new CellLibrary();
+        CHECKS.sentence("in place of what was there");
+        CountedLibrary x = new CountedLibrary();
         for (int n = 0; n < 5; n++) {
             CHECKS.due("the same text again",
                 Checks.read(x, "table t:1/1/1;table u:1/1/1;cell A{in a;out Y=a;}cell B{out Y=1;}"), 2);
@@ -22,7 +26,8 @@ final class ReuseTest {
     }
 
     private static void shorterRows() {
-        CellLibrary x = new CellLibrary();
+        CHECKS.sentence("in place of what was there: nothing of it is left");
+        CountedLibrary x = new CountedLibrary();
         for (int n = 0; n < 2; n++) {
             Checks.read(x, "table t:1 50 60 70/2 3 4 5/9 8 7 6 5 4 3 2 1 2 3 4 5 6 7 8;"
                 + "cell I{in a;out Y=!a;out Z=a;power 3 4;arc a Y neg t t;}cell J{in a;out Y=!a;area 1;}cell K{in a;out Y=!a;}");
@@ -40,52 +45,56 @@ final class ReuseTest {
         }
     }
 
-    private static void fullRows() {
-        StringBuilder text = new StringBuilder();
-        for (int i = 0; i < 12; i++) {
-            text.append("cell c").append((char) ('a' + i)).append("{in a;out Y=a;drive ").append(12 - i)
-                .append(";load ").append(i).append(";area ").append(i + 1).append(";}");
-        }
-        CellLibrary x = Checks.of(text.toString());
-        for (int i = 0; i < 12; i++) {
-            CHECKS.due("family of twelve " + i, x.family(3, i), 11 - i);
-            CHECKS.due("best of twelve for " + i, x.best(3, i), i);
-        }
-        CHECKS.due("behind twelve", x.family(3, 12), NONE);
-        CHECKS.due("none of twelve", x.best(3, 12), NONE);
-        CellLibrary y = Checks.of("cell a{in a;out Y=a;area 9;}cell b{in a;out Y=!a;area 3;}cell c{in a;out Y=a;drive 1;area 1;}");
-        CHECKS.due("best of two", y.best(0, 0), 2);
-        CHECKS.due("best of one, behind two", y.best(1, 0), 1);
+    private static void smallerFamily() {
+        CHECKS.sentence("THE FAMILY of a cell, behind that of another");
+        CountedLibrary x = Checks.of("cell a{in a;out Y=a;area 9;}cell b{in a;out Y=!a;area 3;}cell c{in a;out Y=a;drive 1;area 1;}");
+        CHECKS.due("best of two", x.best(0, 0), 2);
+        CHECKS.due("best of one, behind two", x.best(1, 0), 1);
+        CHECKS.due("the second of two", x.family(0, 1), 2);
+        CHECKS.due("no second, behind two", x.family(1, 1), NONE);
     }
 
-    private static void endOfTheTape() {
-        String body = "cell c{out Y=1;drive ";
-        String[] ends = {"7", "a", "1234567", "ninechars"};
-        for (String end : ends) {
-            CellLibrary x = new CellLibrary();
-            String text = body + " ".repeat(1400 - body.length() - end.length()) + end;
-            boolean standing = end.equals("7");
-            CHECKS.due("a full tape that ends in " + end, Checks.read(x, text), -1 - (standing ? 1400 : 1400 - end.length()));
+    private static void faultsBetween() {
+        CHECKS.sentence("-1 less the fault: then that stays");
+        CountedLibrary x = Checks.of(Checks.LIBRARY);
+        List<Long> before = Picture.of(x);
+        String[] faulty = {"#", "cell X{in a;in b;in c;out P=a;out Q=b;out R=c;drive 9;", "table t:7/7/7;table u:8/8/8;table v:9/9/9;cell",
+            "cell AA{in b;in a;out Z=a;power 1 1 1 1;}cell B{out Q=1;}cell B"};
+        for (String text : faulty) {
+            CHECKS.due("a fault in " + text, Checks.read(x, text) < 0, true);
         }
-        CellLibrary x = new CellLibrary();
-        Checks.read(x, "1".repeat(60));
-        CHECKS.due("digits of an older text behind a number", Checks.read(x, body + "12"), -1 - body.length() - 2);
-        Checks.read(x, "a".repeat(60));
-        CHECKS.due("letters of an older text behind a name", Checks.read(x, "cell c{in bb"), -13);
-        CHECKS.due("a full tape", Checks.read(x, " ".repeat(1384) + "cell c{out Y=1;}"), 1);
-        CHECKS.due("the place of its name", x.cell(0, 7), 1389);
+        CHECKS.due("all answers stay", Picture.of(x).equals(before), true);
     }
 
-    private static void throwsChangeNothing() {
-        CellLibrary x = Checks.of("cell c{in a;out Y=a;area 4;}");
-        x.unit('#');
-        CHECKS.index("cell", () -> x.cell(1, 0));
-        CHECKS.index("family", () -> x.family(0, -1));
-        CHECKS.argument("best", () -> x.best(0, -1));
-        CHECKS.due("cells", x.count(0), 1);
-        CHECKS.due("tape", x.count(2), 1);
-        CHECKS.due("area", x.cell(0, 5), 4);
-        CHECKS.due("best", x.best(0, 0), 0);
-        CHECKS.due("read", x.read(), -1);
+    private static void refusalsInARow() {
+        CHECKS.sentence("A call that throws changes nothing.");
+        CountedLibrary x = Checks.of(Checks.LIBRARY);
+        Checks.write(x, "cell C{out ");
+        List<Long> before = Picture.of(x);
+        int[] outside = {Integer.MIN_VALUE, -2, 64, Integer.MAX_VALUE};
+        for (int n : outside) {
+            CHECKS.index("cell", () -> x.cell(n, 0));
+            CHECKS.index("truth", () -> x.truth(0, n));
+            CHECKS.index("sense", () -> x.sense(0, n, 0));
+            CHECKS.index("arc", () -> x.arc(0, n, 0));
+            CHECKS.index("delay", () -> x.delay(0, n, -1, 0, true));
+            CHECKS.argument("delay", () -> x.delay(0, 0, n < 0 ? n : 1000001, 0, true));
+            CHECKS.index("power", () -> x.power(0, n));
+            CHECKS.index("alike", () -> x.alike(0, n) ? 1 : 0);
+            CHECKS.index("order", () -> x.order(0, 1, n));
+            CHECKS.index("family", () -> x.family(n, 0));
+            CHECKS.argument("best", () -> x.best(0, Math.min(n, -1)));
+            CHECKS.index("letter", () -> x.letter(0, n, 0));
+            CHECKS.index("count", () -> x.count(n));
+        }
+        CHECKS.due("all answers stay", Picture.of(x).equals(before), true);
+        CHECKS.due("the tape stays", Checks.read(x, "Y=1;}"), 1);
+    }
+
+    private static void askingChangesNothing() {
+        CHECKS.sentence("Nothing is promised beyond the answers and state changes described above");
+        CountedLibrary x = Checks.of(Checks.LIBRARY);
+        List<Long> first = Picture.of(x);
+        CHECKS.due("the same answers again", Picture.of(x).equals(first), true);
     }
 }
