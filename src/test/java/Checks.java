@@ -107,7 +107,7 @@ final class Checks {
     void fault(String marked) {
         int place = marked.indexOf('@');
         String text = marked.substring(0, place) + marked.substring(place + 1);
-        CountedLibrary library = of(OLD);
+        CountedLibrary library = used();
         List<Long> before = Picture.of(library);
         due("read of " + marked, read(library, text), -1 - place);
         due("what was there stays behind " + marked, Picture.of(library).equals(before), true);
@@ -117,6 +117,14 @@ final class Checks {
 
     void sound(String text, int cells) {
         due("read of " + text, read(new CountedLibrary(), text), cells);
+        due("read, behind other texts, of " + text, read(used(), text), cells);
+    }
+
+    /** A library that has read the same text twice, so that all it may keep rows in has been used. */
+    private static CountedLibrary used() {
+        CountedLibrary library = of(OLD);
+        read(library, OLD);
+        return library;
     }
 
     /** A call that is refused or throws: all answers behind it are those before it, and so is the tape. */

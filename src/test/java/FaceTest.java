@@ -25,6 +25,7 @@ final class FaceTest {
                 found.add(described(method));
                 publicNames.add(method.getName());
                 checks.due(method + " is public alone", method.getModifiers(), Modifier.PUBLIC);
+                checks.due(method + " names what it throws", Arrays.equals(method.getExceptionTypes(), thrownBy(method.getName())), true);
             }
         }
         System.out.print(found.equals(new TreeSet<>(Arrays.asList(FACE))) ? "" : "the face is " + found + "\n");
@@ -51,6 +52,20 @@ final class FaceTest {
         otherNames.retainAll(publicNames);
         checks.due("names used twice " + otherNames, otherNames.isEmpty(), true);
         checks.finish();
+    }
+
+    private static Class<?>[] thrownBy(String name) {
+        switch (name) {
+            case "unit":
+            case "units":
+            case "read":
+                return new Class<?>[] {};
+            case "delay":
+            case "best":
+                return new Class<?>[] {IndexOutOfBoundsException.class, IllegalArgumentException.class};
+            default:
+                return new Class<?>[] {IndexOutOfBoundsException.class};
+        }
     }
 
     private static String described(Method method) {
