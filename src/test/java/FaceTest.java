@@ -30,13 +30,16 @@ final class FaceTest {
         }
         System.out.print(found.equals(new TreeSet<>(Arrays.asList(FACE))) ? "" : "the face is " + found + "\n");
         checks.due("the face", found.equals(new TreeSet<>(Arrays.asList(FACE))), true);
+        checks.due("constructors", face.getDeclaredConstructors().length, 1);
         for (Constructor<?> constructor : face.getDeclaredConstructors()) {
             checks.due(constructor.toString(), constructor.getModifiers() == Modifier.PUBLIC
                 && constructor.getParameterCount() == 0, true);
+            checks.due(constructor + " names no exception", constructor.getExceptionTypes().length, 0);
         }
         for (Field field : face.getDeclaredFields()) {
-            checks.due(field.toString(), Modifier.isPrivate(field.getModifiers()) || field.getName().equals("NONE"), true);
+            checks.due(field.toString(), Modifier.isPrivate(field.getModifiers()) || isNone(field), true);
         }
+        checks.due("NONE", CellLibrary.NONE, -1);
         TreeSet<String> otherNames = new TreeSet<>();
         for (Method method : face.getDeclaredMethods()) {
             if (Modifier.isPrivate(method.getModifiers())) {
@@ -52,6 +55,11 @@ final class FaceTest {
         otherNames.retainAll(publicNames);
         checks.due("names used twice " + otherNames, otherNames.isEmpty(), true);
         checks.finish();
+    }
+
+    private static boolean isNone(Field field) {
+        return field.getName().equals("NONE") && field.getType() == int.class
+            && field.getModifiers() == (Modifier.PUBLIC | Modifier.STATIC | Modifier.FINAL);
     }
 
     private static Class<?>[] thrownBy(String name) {
